@@ -1,3 +1,5 @@
+import java.lang.reflect.Field;
+
 /** Each promise by hand: what is ordinary, the edges that the document names, and wrong inputs. */
 public final class PromisesTest {
     private static final int FAR = 1073741823;
@@ -329,6 +331,24 @@ public final class PromisesTest {
         y.point(-FAR, FAR, 1);
         due("about x at the edge", y.about(0, 6), -FAR);
         due("about y at the edge", y.about(0, 5), FAR);
+        aboutUnequalCrowds();
+    }
+
+    private static void aboutUnequalCrowds() {
+        PointCrowds x = line(-7, -6, 4, 5, 6, 20);
+        x.reach(1);
+        int[] sizes = {2, 3, 1};
+        int[] leastCores = {0, 2, 5};
+        for (int crowd = 0; crowd < sizes.length; crowd++) {
+            due("points of crowd " + crowd, x.about(crowd, 0), sizes[crowd]);
+            due("cores of crowd " + crowd, x.about(crowd, 1), sizes[crowd]);
+            due("weights of crowd " + crowd, x.about(crowd, 2), sizes[crowd]);
+            due("least core of crowd " + crowd, x.about(crowd, 3), leastCores[crowd]);
+        }
+        due("least x at point 0", x.about(0, 4), -7);
+        x.move(0, -5, 0);
+        due("greatest x at point 0", x.about(0, 6), -5);
+        due("least x at point 1", x.about(0, 4), -6);
     }
 
     private static void promise13Around() {
@@ -461,6 +481,30 @@ public final class PromisesTest {
             due("check with reach " + reach, x.check(), 1);
             x.crowds(70 - reach);
             due("check after crowds", x.check(), 1);
+        }
+        checkTellsFaults();
+    }
+
+    /** No run of calls leads to a fault, so this one is put into the object from outside. */
+    private static void checkTellsFaults() {
+        PointCrowds apart = line(0, 5);
+        due("check of two apart", apart.check(), 1);
+        putIntoCrowd(apart, 1, 0);
+        due("check of two apart in one crowd", apart.check(), 0);
+        PointCrowds near = line(0, 1);
+        near.reach(1);
+        due("check of two near", near.check(), 1);
+        putIntoCrowd(near, 1, 1);
+        due("check of two near in two crowds", near.check(), 0);
+    }
+
+    private static void putIntoCrowd(PointCrowds x, int p, int crowd) {
+        try {
+            Field crowdOf = PointCrowds.class.getDeclaredField("crowdOf");
+            crowdOf.setAccessible(true);
+            ((int[]) crowdOf.get(x))[p] = crowd;
+        } catch (ReflectiveOperationException e) {
+            DUE.holds("the row of crowds is called crowdOf", false);
         }
     }
 
