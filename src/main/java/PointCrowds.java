@@ -177,9 +177,12 @@ public final class PointCrowds {
     // ---- questions about crowds
 
     public int count(int what) {
+        // Points and weights are counted without crowds.
+        if (what >= 0 && what <= 3) {
+            sortWith(reachNow);
+        }
         switch (what) {
             case 0:
-                sortWith(reachNow);
                 return crowdCount;
             case 1:
                 return countKind(CORE);
@@ -408,7 +411,6 @@ public final class PointCrowds {
     }
 
     private int countKind(int kind) {
-        sortWith(reachNow);
         int n = 0;
         for (int p = 0; p < MOST_POINTS; p++) {
             if (weights[p] > 0 && kindOf(p) == kind) {

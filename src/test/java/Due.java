@@ -24,6 +24,10 @@ final class Due {
         }
     }
 
+    int askedSoFar() {
+        return asked;
+    }
+
     int wrongSoFar() {
         return wrong;
     }

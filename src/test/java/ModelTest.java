@@ -6,12 +6,14 @@ import java.util.TreeSet;
 /** Long runs of mixed calls, each answer compared with the one of SlowCrowds. */
 public final class ModelTest {
     private static final int CALLS = 512;
+    private static final int MOST_AT_ONCE = 40;
     private static final int FARTHEST = 1073741823;
 
     private final Due due;
     private final Random random;
     private final int spread;
     private final int mostPoints;
+    private final int askedBefore;
     private final PointCrowds x = new PointCrowds();
     private final SlowCrowds slow = new SlowCrowds();
 
@@ -20,13 +22,14 @@ public final class ModelTest {
         this.random = new Random(seed);
         this.spread = spread;
         this.mostPoints = mostPoints;
+        this.askedBefore = due.askedSoFar();
     }
 
     public static void main(String[] args) {
         Due due = new Due("ModelTest");
         int[] spreads = {0, 2, 6, 15, 100, 40000, FARTHEST};
-        for (int seed = 0; seed < 70 && due.wrongSoFar() == 0; seed++) {
-            new ModelTest(due, seed, spreads[seed % spreads.length], 3 + seed % 12).run(CALLS);
+        for (int seed = 0; seed < 140 && due.wrongSoFar() == 0; seed++) {
+            new ModelTest(due, seed, spreads[seed % spreads.length], 3 + seed % 12).run();
         }
         for (int seed = 0; seed < 7 && due.wrongSoFar() == 0; seed++) {
             new ModelTest(due, 1000 + seed, Math.max(20, spreads[seed]), 120).runFull();
@@ -34,8 +37,8 @@ public final class ModelTest {
         due.end();
     }
 
-    private void run(int calls) {
-        for (int i = 0; i < calls; i++) {
+    private void run() {
+        while (hasCallsLeft()) {
             if (random.nextInt(3) == 0) {
                 change();
             } else {
@@ -44,13 +47,18 @@ public final class ModelTest {
         }
     }
 
+    /** Beyond 512 calls the document leaves every answer free. */
+    private boolean hasCallsLeft() {
+        return due.askedSoFar() - askedBefore <= CALLS - MOST_AT_ONCE;
+    }
+
     /** All 120 points at once, with few of the dear questions, which the slow one can't do often. */
     private void runFull() {
         for (int i = 0; i < 120; i++) {
             add();
         }
         due.same("point beyond 120", x.point(0, 0, 1), -1);
-        for (int i = 0; i < 40; i++) {
+        while (hasCallsLeft()) {
             changeSettings();
             if (random.nextInt(4) == 0) {
                 changePoint();

@@ -496,6 +496,32 @@ public final class PromisesTest {
         due("check of two near", near.check(), 1);
         putIntoCrowd(near, 1, 1);
         due("check of two near in two crowds", near.check(), 0);
+        checkTellsFaultsOfFirstAndLast();
+    }
+
+    /** Of 120 one stands apart from all others, so that the fault is to be seen from it alone. */
+    private static void checkTellsFaultsOfFirstAndLast() {
+        for (int apart : new int[] {0, 60, 119}) {
+            PointCrowds x = new PointCrowds();
+            x.way(1);
+            x.reach(2);
+            for (int p = 0; p < 120; p++) {
+                x.point(p == apart ? -FAR : p, 0, 1);
+            }
+            due("crowds with " + apart + " apart", x.count(0), 2);
+            due("check with " + apart + " apart", x.check(), 1);
+            putIntoCrowd(x, apart, 1 - x.crowd(apart));
+            due("check with " + apart + " in the crowd it is apart from", x.check(), 0);
+        }
+        PointCrowds y = line(0, 5);
+        for (int p = 2; p < 120; p++) {
+            y.point(1000 + 5 * p, 0, 1);
+        }
+        y.move(119, 1, 0);
+        y.reach(1);
+        due("check with the first and the last near", y.check(), 1);
+        putIntoCrowd(y, 119, 118);
+        due("check with the first and the last near in two crowds", y.check(), 0);
     }
 
     private static void putIntoCrowd(PointCrowds x, int p, int crowd) {
