@@ -855,9 +855,16 @@ public final class EdgesTest {
                 due("check of 120, reach " + reach + ", demand " + demand, x.check(), 1);
             }
         }
-        x.remove(60);
         x.reach(1);
         x.demand(1);
+        x.move(119, 1, 0);
+        x.move(1, 119, 0);
+        due("check of one that has the last alone as a neighbour", x.check(), 1);
+        x.move(119, 0, 0);
+        x.move(0, 1, 0);
+        due("check of one that has the first alone as a neighbour", x.check(), 1);
+        x.remove(60);
         due("check of two crowds of many", x.check(), 1);
+        due("two crowds of many", x.count(0), 2);
     }
 }
