@@ -1,14 +1,11 @@
-import java.io.IOException;
 import java.lang.reflect.Constructor;
 import java.lang.reflect.Field;
 import java.lang.reflect.Method;
 import java.lang.reflect.Modifier;
-import java.nio.file.Files;
-import java.nio.file.Path;
 import java.util.Set;
 import java.util.TreeSet;
 
-/** The face of the document, and the rules of LANGUAGE.md that the class and its text can show. */
+/** The face of the document, and what rules 1, 5 and 11 of LANGUAGE.md say of members. */
 public final class FaceTest {
     private static final Set<String> FACE = Set.of(
             "int point(int,int,int)", "int remove(int)", "int move(int,int,int)", "int way(int)",
@@ -17,18 +14,12 @@ public final class FaceTest {
             "int belongs(int,int)", "long dense(int)", "long meet(int,int)", "int crowds(long)",
             "int check()");
 
-    private static final String[] FORBIDDEN = {
-        "import ", "package ", "->", "::", "catch", "try ", "throw", "finally", "synchronized",
-        "assert", "Exact(", "System.", "Object", "double", "float", "static {", "switch (what) ->",
-    };
-
     private static final Due DUE = new Due("FaceTest");
 
-    public static void main(String[] args) throws IOException {
+    public static void main(String[] args) {
         methods();
         constructors();
         fields();
-        text();
         DUE.end();
     }
 
@@ -83,18 +74,5 @@ public final class FaceTest {
             ofObject += Modifier.isStatic(modifiers) ? 0 : 1;
         }
         DUE.holds("there are at most twenty fields: " + ofObject, ofObject <= 20);
-    }
-
-    private static void text() throws IOException {
-        String text = Files.readString(Path.of("src/main/java/PointCrowds.java"));
-        String code = text.replaceAll("(?s)/\\*.*?\\*/", "").replaceAll("//[^\n]*", "");
-        for (String part : FORBIDDEN) {
-            DUE.holds("the code has no '" + part + "'", !code.contains(part));
-        }
-        int made = code.split("\\bnew\\b", -1).length - 1;
-        int start = code.indexOf("public PointCrowds()");
-        int end = code.indexOf("    }\n", start);
-        int madeAtFirst = code.substring(start, end).split("\\bnew\\b", -1).length - 1;
-        DUE.same("objects made outside the constructor", made - madeAtFirst, 0);
     }
 }

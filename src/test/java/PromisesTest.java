@@ -29,7 +29,6 @@ public final class PromisesTest {
         promise17Crowds();
         promise18Check();
         wrongNumbers();
-        readmeExample();
         DUE.end();
     }
 
@@ -551,21 +550,5 @@ public final class PromisesTest {
             due("about(" + p + ", 0)", x.about(p, 0), -1);
         }
         due("points after wrong numbers", x.count(4), 3);
-    }
-
-    private static void readmeExample() {
-        PointCrowds crowds = new PointCrowds();
-        due("README: a", crowds.point(0, 0, 2), 0);
-        due("README: b", crowds.point(3, 4, 1), 1);
-        due("README: c", crowds.point(50, 0, 1), 2);
-        crowds.demand(3);
-        crowds.reach(25);
-        due("README: kind(a)", crowds.kind(0), 2);
-        due("README: crowd(b)", crowds.crowd(1), 0);
-        due("README: kind(c)", crowds.kind(2), 0);
-        due("README: belongs", crowds.belongs(0, 5), 0);
-        due("README: dense(c)", crowds.dense(2), 2500);
-        due("README: meet(a, c)", crowds.meet(0, 2), 2500);
-        due("README: crowds(0)", crowds.crowds(0), 0);
     }
 }
