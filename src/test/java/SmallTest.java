@@ -2,9 +2,9 @@ import java.util.List;
 import java.util.TreeSet;
 
 /**
- * Every way to put up to four points at four places, with every demand that tells them apart, every
- * way of distances and every reach at which something changes: each answer compared with the one of
- * SlowCrowds. Where ModelTest draws by lot, nothing that small is left out here.
+ * Every placing of up to three points of weight 1 or 3, and of four of weight 1, at four places, with
+ * every demand that tells them apart, every way of distances and every reach at which something
+ * changes: the answers are compared with those of SlowCrowds. ModelTest draws by lot; this does not.
  */
 public final class SmallTest {
     // Two of the distances are the same by one way and not by another.
@@ -14,7 +14,6 @@ public final class SmallTest {
     private static final Due DUE = new Due("SmallTest");
 
     public static void main(String[] args) {
-        // Three points of two weights each, or four of one weight.
         for (int points = 0; points <= 3; points++) {
             allPlacings(points, new int[] {1, 3});
         }
